@@ -15,6 +15,7 @@ final class CodePromises {
     Check.test("promises 30, 31: what is written is as long as is told", CodePromises::lengthsAreThoseSent);
     Check.test("promises 30, 31, 33: wrong lines and modes", CodePromises::lengthsRefuse);
     Check.test("promise 32: modeOf", CodePromises::modeOf);
+    Check.test("promise 33: checkOf, alone", CodePromises::checkAlone);
     Check.test("promise 34: wouldSend", CodePromises::wouldSend);
     Check.test("promise 48: codedShare", CodePromises::codedShare);
   }
@@ -186,6 +187,14 @@ final class CodePromises {
     Check.same("codeLength(1, 1)", even.codeLength(1, 1), 7);
     Check.same("codeLength(1, 2)", even.codeLength(1, 2), 7);
     Check.same("modeOf, of several the lowest", even.modeOf(1), 1);
+  }
+
+  private static void checkAlone() {
+    RunFaxes x = Make.page(8, "..####..", "########");
+    Check.same("checkOf(1, 1)", x.checkOf(1, 1), 2);
+    Check.same("checkOf(0, 0)", x.checkOf(0, 0), 8);
+    Check.same("checkOf(0, 1)", x.checkOf(0, 1), 1);
+    Check.same("checkOf(1, 2)", x.checkOf(1, 2), 11);
   }
 
   private static void wouldSend() {

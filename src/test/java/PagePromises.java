@@ -120,6 +120,8 @@ final class PagePromises {
     x.undo();
     x.undo();
     Check.same("rows behind undo", Make.rows(x), "#......./..##..../........");
+    Check.same("setLine", x.setLine(0, 3), 1L);
+    Check.same("rows", Make.rows(x), "##....../..##..../........");
     Check.same("the stream stays", x.streamLength(), 0);
   }
 

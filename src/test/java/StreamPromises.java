@@ -421,8 +421,8 @@ final class StreamPromises {
     Check.same("the digest stays", x.digest(), before);
     x.receive();
     x.replace(6, 0);
-    Check.same("wouldReceive", x.wouldReceive(), 0);
     Check.same("wouldBeRight", x.wouldBeRight(), 0);
+    Check.same("wouldReceive", x.wouldReceive(), 0);
     Check.same("received stays", x.received(), 2);
     Check.same("right stays", x.right(), 1);
     Check.same("errors stay", Make.errors(x), "13:8");

@@ -10,6 +10,7 @@ final class UndoPromises {
     Check.test("promise 19: keep", UndoPromises::keep);
     Check.test("promise 20: restore", UndoPromises::restore);
     Check.test("promises 18, 20: all of the state comes back", UndoPromises::wholeState);
+    Check.test("promises 18, 20: what is received comes back", UndoPromises::receivedComesBack);
     Check.test("promise 21: savedStates", UndoPromises::savedStates);
     Check.test("promise 49: digest", UndoPromises::digest);
     Check.test("promise 49: digest of many shares", UndoPromises::digestOfShares);
@@ -144,6 +145,25 @@ final class UndoPromises {
     x.undo();
     Check.same("width behind undo", x.width(), 12);
     Check.same("hasStopped behind undo", x.hasStopped(), false);
+  }
+
+  private static void receivedComesBack() {
+    RunFaxes x = Make.fed(8, "f000088 f0a");
+    x.receive();
+    x.keep();
+    x.lose(3);
+    x.receive();
+    Check.same("receivedPixels", x.receivedPixels(0), 0L);
+    Check.same("errors", Make.errors(x), "6:2");
+    x.undo();
+    Check.same("receivedPixels behind undo", x.receivedPixels(0), 255L);
+    Check.same("errors behind undo", Make.errors(x), "7:2");
+    x.receive();
+    x.restore();
+    Check.same("receivedPixels behind restore", x.receivedPixels(0), 255L);
+    Check.same("errors behind restore", Make.errors(x), "7:2");
+    x.undo();
+    Check.same("receivedPixels behind undo", x.receivedPixels(0), 0L);
   }
 
   private static void savedStates() {
