@@ -12,6 +12,13 @@ public final class AllTests {
     StreamPromises.run();
     TextPromises.run();
     UndoPromises.run();
+    EdgesOfPages.run();
+    EdgesOfCodes.run();
+    EdgesOfStreams.run();
+    EdgesOfReadings.run();
+    EdgesOfTexts.run();
+    EdgesOfUndo.run();
+    Refusals.run();
     RoomTests.run();
     RandomRuns.run();
     if (Check.close() != 0) {

@@ -41,8 +41,10 @@ final class Make {
 
   /** Puts numbers, told as hexadecimal digits, behind the stream; blanks are left out. */
   static void feed(RunFaxes x, String digits) {
+    int length = x.streamLength();
     for (char c : digits.replace(" ", "").toCharArray()) {
-      x.gain(x.streamLength(), Character.digit(c, 16));
+      x.gain(length, Character.digit(c, 16));
+      length++;
     }
   }
 
@@ -54,7 +56,8 @@ final class Make {
 
   static String stream(RunFaxes x) {
     StringBuilder digits = new StringBuilder();
-    for (int place = 0; place < x.streamLength(); place++) {
+    int length = x.streamLength();
+    for (int place = 0; place < length; place++) {
       digits.append(Character.forDigit(x.numberAt(place), 16));
     }
     return digits.toString();
@@ -87,5 +90,76 @@ final class Make {
       lines.append(x.isReceived(line) ? String.valueOf(line) : "");
     }
     return lines.toString();
+  }
+
+  /** Makes a reading, and tells the numbers of the lines that are received, and the errors. */
+  static String read(int width, String digits) {
+    RunFaxes x = fed(width, digits);
+    int count = x.receive();
+    Check.same("received", x.received(), count);
+    return receivedLines(x) + "|" + errors(x);
+  }
+
+  // ---- objects that are full; each in far fewer than 512 calls
+
+  /** A page of 10 lines of the width 8, the pixel n being black in the line n, as far as it goes. */
+  static RunFaxes fullPage() {
+    RunFaxes x = wide(8);
+    for (int line = 0; line < 10; line++) {
+      x.addLine(1L << line & 255);
+    }
+    return x;
+  }
+
+  /** The page with the longest code: 380 numbers in the stream, 10 lines of 32 pixels in turns. */
+  static RunFaxes longestSent() {
+    RunFaxes x = wide(32);
+    x.setStyle(0);
+    for (int line = 0; line < 10; line++) {
+      x.addLine(0x55555555L);
+    }
+    x.send();
+    return x;
+  }
+
+  /** A stream of 500 numbers: the longest page, zeros, and at the end these digits. */
+  static RunFaxes fullStream(String digits) {
+    RunFaxes x = longestSent();
+    for (int length = 380; length < 500 - digits.length(); length++) {
+      x.gain(length, 0);
+    }
+    feed(x, digits);
+    return x;
+  }
+
+  static RunFaxes fullBuffer() {
+    RunFaxes x = wide(8);
+    type(x, "+#" + ";s".repeat(29));
+    return x;
+  }
+
+  /** 20 errors of the reason 2, at the places 0, 3 and so on. */
+  static RunFaxes fullErrors() {
+    RunFaxes x = fed(8, "f0a".repeat(20));
+    x.receive();
+    return x;
+  }
+
+  /**
+   * Something of all: two lines of the width 10, 18 numbers, lines received, an error, a stop, five
+   * saved states, a snapshot, a text begun.
+   */
+  static RunFaxes laden() {
+    RunFaxes x = wide(10);
+    x.addLine(3);
+    x.keep();
+    x.setStyle(1);
+    x.addLine(512);
+    x.send();
+    feed(x, "f0");
+    x.receive();
+    play(x, "r;x499=1");
+    type(x, "s;");
+    return x;
   }
 }

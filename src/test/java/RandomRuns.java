@@ -2,13 +2,17 @@ import java.util.function.LongSupplier;
 
 /** Long runs of calls by a fixed sequence of numbers, on the class and on the oracle at once. */
 final class RandomRuns {
-  private static final int RUNS = 500;
-  private static final int CALLS = 400;
+  private static final int KINDS = 6;
+  private static final int RUNS_OF_A_KIND = 600;
+  private static final int FULL = 5;
+  // What an object answers to later calls is free.
+  private static final int MOST_CALLS = 512;
 
   private long seed;
   private final RunFaxes x = new RunFaxes();
   private final Oracle oracle = new Oracle();
   private final int[] reasons;
+  private int calls = 0;
 
   private RandomRuns(long seed, int[] reasons) {
     this.seed = seed;
@@ -17,7 +21,7 @@ final class RandomRuns {
 
   static void run() {
     int[] reasons = new int[9];
-    for (int kind = 0; kind < 5; kind++) {
+    for (int kind = 0; kind < KINDS; kind++) {
       int dealt = kind;
       Check.test("runs of calls as the oracle tells, kind " + kind, () -> runsOf(dealt, reasons));
     }
@@ -29,7 +33,7 @@ final class RandomRuns {
   }
 
   private static void runsOf(int kind, int[] reasons) {
-    for (int run = 0; run < RUNS / 5; run++) {
+    for (int run = 0; run < RUNS_OF_A_KIND; run++) {
       new RandomRuns(1000L * run + kind, reasons).play(kind);
     }
   }
@@ -40,22 +44,33 @@ final class RandomRuns {
   }
 
   private void play(int kind) {
-    if (kind != 0) {
+    if (kind == FULL) {
+      nearlyFull();
+    } else if (kind != 0) {
       int width = 8 + below(25);
       both("setWidth " + width, () -> x.setWidth(width), () -> oracle.setWidth(width));
     }
-    for (int call = 0; call < CALLS; call++) {
+    int betweenDigests = 1 + below(12);
+    int looksFrom = below(MOST_CALLS);
+    boolean looked = false;
+    while (calls < MOST_CALLS) {
       deal(kind);
-      both("digest", x::digest, oracle::digest);
-      if (call % 8 == 0) {
+      if (below(betweenDigests) == 0) {
+        both("digest", x::digest, oracle::digest);
+      }
+      if (!looked && calls >= looksFrom) {
         looks();
+        looked = true;
       }
     }
   }
 
-  /** The answer, or the exception's name; both must be the same. */
+  /** The answer, or the exception's name; both must be the same. All calls of x come through here. */
   private void both(String what, LongSupplier mine, LongSupplier due) {
-    Check.same(what, answer(mine), answer(due));
+    if (calls < MOST_CALLS) {
+      calls++;
+      Check.same(what, answer(mine), answer(due));
+    }
   }
 
   private static String answer(LongSupplier call) {
@@ -64,6 +79,18 @@ final class RandomRuns {
     } catch (IllegalArgumentException | IllegalStateException | IndexOutOfBoundsException e) {
       return e.getClass().getSimpleName();
     }
+  }
+
+  private int width() {
+    return (int) oracle.width();
+  }
+
+  private int lines() {
+    return (int) oracle.lines();
+  }
+
+  private int streamLength() {
+    return (int) oracle.streamLength();
   }
 
   private static long bit(boolean value) {
@@ -83,6 +110,13 @@ final class RandomRuns {
         break;
       case 3:
         texts();
+        break;
+      case FULL:
+        if (below(3) == 0) {
+          anyCall();
+        } else {
+          damage();
+        }
         break;
       default:
         if (below(4) == 0) {
@@ -143,12 +177,12 @@ final class RandomRuns {
         both("restore", x::restore, oracle::restore);
         break;
       default:
-        gain(x.streamLength(), below(17));
+        gain(streamLength(), below(17));
     }
   }
 
   private long somePixels() {
-    long all = (1L << x.width()) - 1;
+    long all = (1L << width()) - 1;
     long some = (long) below(1 << 16) << 16 | below(1 << 16);
     switch (below(7)) {
       case 0:
@@ -158,11 +192,11 @@ final class RandomRuns {
       case 2:
         return all;
       case 3:
-        return (1L << below(x.width())) - 1;
+        return (1L << below(width())) - 1;
       case 4:
-        return all & ~((1L << below(x.width())) - 1);
+        return all & ~((1L << below(width())) - 1);
       case 5:
-        return (x.lines() > 0 ? x.pixelsOf(x.lines() - 1) : 0) ^ 1L << below(x.width());
+        return (lines() > 0 ? oracle.pixelsOf(lines() - 1) : 0) ^ 1L << below(width());
       default:
         return below(8) == 0 ? -some : below(8) == 0 ? all + 1 : 0x5555555555L & all;
     }
@@ -184,7 +218,7 @@ final class RandomRuns {
   }
 
   private void damage() {
-    int place = below(x.streamLength() + 3) - 1;
+    int place = below(streamLength() + 3) - 1;
     int number = below(3) == 0 ? below(18) - 1 : new int[] {0, 1, 14, 15}[below(4)];
     switch (below(3)) {
       case 0:
@@ -202,10 +236,24 @@ final class RandomRuns {
 
   // ---- kinds of runs
 
+  /** A page of ten lines with the longest code, sent, and a stream of nearly 500 numbers. */
+  private void nearlyFull() {
+    both("setWidth", () -> x.setWidth(32), () -> oracle.setWidth(32));
+    both("setStyle", () -> x.setStyle(0), () -> oracle.setStyle(0));
+    for (int line = 0; line < 10; line++) {
+      both("addLine", () -> x.addLine(0x55555555L), () -> oracle.addLine(0x55555555L));
+    }
+    both("send", x::send, oracle::send);
+    int most = 490 + below(11);
+    while (streamLength() < most) {
+      put(new int[] {0, 1, 2, 14, 15, 15}[below(6)]);
+    }
+  }
+
   private void pageThenDamage() {
     switch (below(8)) {
       case 0:
-        if (x.lines() > 7 && below(2) == 0) {
+        if (lines() > 7 && below(2) == 0) {
           both("dropLast", x::dropLast, oracle::dropLast);
         }
         addLine();
@@ -226,8 +274,9 @@ final class RandomRuns {
 
   /** Codes put together number by number, most of them nearly right. */
   private void madeStream() {
-    if (x.streamLength() > 450 && below(3) == 0) {
-      both("setWidth", () -> x.setWidth(x.width()), () -> oracle.setWidth((int) oracle.width()));
+    if (streamLength() > 300 && below(3) == 0) {
+      int width = width();
+      both("setWidth", () -> x.setWidth(width), () -> oracle.setWidth(width));
     }
     put(15);
     put(0);
@@ -238,7 +287,7 @@ final class RandomRuns {
     int sum = line + mode;
     int numbers = below(12);
     int told = 0;
-    for (int i = 0; i < numbers && told < x.width(); i++) {
+    for (int i = 0; i < numbers && told < width(); i++) {
       int number = below(7) == 0 ? below(16) : below(5);
       put(number);
       if (number == 15) {
@@ -247,7 +296,7 @@ final class RandomRuns {
       sum += number;
       told += number;
     }
-    int rest = x.width() - told;
+    int rest = width() - told;
     if (rest > 0 && rest < 14 && below(4) > 0) {
       put(rest);
       sum += rest;
@@ -258,12 +307,12 @@ final class RandomRuns {
   }
 
   private void put(int number) {
-    gain(x.streamLength(), number);
+    gain(streamLength(), number);
   }
 
   private void countReasons() {
-    for (int i = 0; i < x.errors(); i++) {
-      reasons[x.errorReason(i)]++;
+    for (int i = 0; i < oracle.errors(); i++) {
+      reasons[(int) oracle.errorReason(i)]++;
     }
   }
 
@@ -288,7 +337,7 @@ final class RandomRuns {
       case 0:
       case 1:
         StringBuilder row = new StringBuilder("+");
-        int pixels = below(3) == 0 ? below(35) : x.width() - 2 + below(4);
+        int pixels = below(3) == 0 ? below(35) : width() - 2 + below(4);
         for (int i = 0; i < pixels; i++) {
           row.append(below(3) == 0 ? '#' : '.');
         }
@@ -300,7 +349,7 @@ final class RandomRuns {
       case 4:
         return "r";
       case 5:
-        int place = below(4) == 0 ? below(505) : below(Math.max(1, x.streamLength()));
+        int place = below(4) == 0 ? below(505) : below(Math.max(1, streamLength()));
         return "x" + place + "=" + (below(9) == 0 ? below(20) : below(16));
       default:
         String signs = "+-srx=;.#0123456789~";
@@ -345,7 +394,7 @@ final class RandomRuns {
     for (int i = -1; i <= 10; i++) {
       looksAt(i);
     }
-    int place = below(x.streamLength() + 2) - 1;
+    int place = below(streamLength() + 2) - 1;
     both("numberAt", () -> x.numberAt(place), () -> oracle.numberAt(place));
     int error = below(22) - 1;
     both("errorPlace", () -> x.errorPlace(error), () -> oracle.errorPlace(error));

@@ -212,9 +212,11 @@ final class UndoPromises {
 
   private static void digestOfShares() {
     for (int width = 8; width <= 32; width++) {
-      RunFaxes x = Make.wide(width);
-      for (int line = 0; line < 10; line++) {
-        x.addLine(0x9249A5B7L * (line + 1) & (1L << width) - 1);
+      for (int lines = 1; lines <= 10; lines++) {
+        RunFaxes x = Make.wide(width);
+        for (int line = 0; line < lines; line++) {
+          x.addLine(0x9249A5B7L * (line + 1) & (1L << width) - 1);
+        }
         Check.same("digest", x.digest(), Digests.of(x, ""));
       }
     }
