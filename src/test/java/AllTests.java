@@ -3,10 +3,11 @@ public final class AllTests {
   private AllTests() {
   }
 
-  /** The argument is the path of RunFaxes.java. */
+  /** The arguments are the paths of RunFaxes.java and README.md. */
   public static void main(String[] args) {
     FaceTests.run();
     LanguageTests.run(args[0]);
+    ReadmeTests.run(args[1]);
     PagePromises.run();
     CodePromises.run();
     StreamPromises.run();
@@ -18,6 +19,7 @@ public final class AllTests {
     EdgesOfReadings.run();
     EdgesOfTexts.run();
     EdgesOfUndo.run();
+    NothingElse.run();
     Refusals.run();
     RoomTests.run();
     RandomRuns.run();

@@ -229,6 +229,9 @@ final class EdgesOfReadings {
     reads("the first number of a long run is not yet too long", "f000ef1", "|0:1");
     reads("as long as the width: a 0 behind that is the check", 16, "f000e100", "0|");
     reads("as long as the width: a run of 0 behind that is no part of it", 16, "f000e10000", "0|");
+    reads("as long as the width: a 0 behind that is the check, the right one comes too late", "f000808", "|0:8");
+    reads("as long as the width: two 0 behind that are no part of it", "f0008008", "|0:8");
+    reads("as long as the width: of differences a 0 behind that is the check", "f00280a", "|0:8");
   }
 
   private static long lineBy(int width, String digits) {

@@ -16,6 +16,7 @@ final class EdgesOfUndo {
     whatUndoLeaves();
     looks();
     changingNothing();
+    savingOne();
     snapshots();
     digests();
     lastCalls();
@@ -244,6 +245,50 @@ final class EdgesOfUndo {
     saves("play of what stops at once", RunFaxes::new, x -> Make.play(x, "-"));
     saves("play of a reading of nothing", RunFaxes::new, x -> Make.play(x, "r"));
     saves("restore", EdgesOfUndo::restored, RunFaxes::restore);
+  }
+
+  /** With two states saved each undoable call saves just one more; undo brings that one back. */
+  private static void savesOne(String what, Consumer<RunFaxes> call) {
+    Check.test("undoable, one state saved: " + what, () -> {
+      RunFaxes x = fewStates();
+      Check.same("savedStates ahead", x.savedStates(), 2);
+      x.clearBuffer();
+      long before = x.digest();
+      call.accept(x);
+      Check.same("savedStates", x.savedStates(), 3);
+      Check.same("undo", x.undo(), 2);
+      Check.same("digest behind undo", x.digest(), before);
+    });
+  }
+
+  /** Each of the others saves none. */
+  private static void savesNone(String what, Consumer<RunFaxes> call) {
+    Check.test("not undoable: " + what, () -> {
+      RunFaxes x = fewStates();
+      call.accept(x);
+      Check.same("savedStates", x.savedStates(), 2);
+      Check.same("undo", x.undo(), 1);
+      Check.same("lines", x.lines(), 0);
+    });
+  }
+
+  private static void savingOne() {
+    savesOne("setWidth", x -> x.setWidth(9));
+    savesOne("addLine", x -> x.addLine(3));
+    savesOne("setLine", x -> x.setLine(1, 3));
+    savesOne("dropLast", RunFaxes::dropLast);
+    savesOne("setStyle", x -> x.setStyle(0));
+    savesOne("send", RunFaxes::send);
+    savesOne("replace", x -> x.replace(0, 3));
+    savesOne("lose", x -> x.lose(0));
+    savesOne("gain", x -> x.gain(0, 3));
+    savesOne("receive", RunFaxes::receive);
+    savesOne("play", x -> Make.play(x, "r;-;s;x0=1"));
+    savesOne("restore", RunFaxes::restore);
+    savesNone("append", x -> x.append('s'));
+    savesNone("clearBuffer", RunFaxes::clearBuffer);
+    savesNone("keep", RunFaxes::keep);
+    savesNone("play that throws", x -> Check.refuses(x, IllegalArgumentException.class, x::play));
   }
 
   private static void snapshots() {

@@ -1,4 +1,7 @@
 import java.io.IOException;
+import java.lang.reflect.Field;
+import java.lang.reflect.Method;
+import java.lang.reflect.Modifier;
 import java.nio.file.Files;
 import java.nio.file.Path;
 import java.util.ArrayList;
@@ -16,6 +19,7 @@ final class LanguageTests {
     Check.test("LANGUAGE.md: the library", () -> library(code(file)));
     Check.test("LANGUAGE.md: static fields are final", () -> staticFields(code(file)));
     Check.test("LANGUAGE.md: short methods", () -> shortMethods(file));
+    Check.test("LANGUAGE.md: few parameters and fields", LanguageTests::fewParametersAndFields);
     Check.test("LANGUAGE.md: texts are not joined by +", () -> noJoin(file));
     Check.test("LANGUAGE.md: signs 1 to 127", () -> plainSigns(file));
   }
@@ -78,6 +82,21 @@ final class LanguageTests {
         Check.holds(start + " has at most 60 lines", i - from <= 60);
         start = null;
       }
+    }
+  }
+
+  private static void fewParametersAndFields() {
+    List<Class<?>> all = new ArrayList<>(List.of(RunFaxes.class.getDeclaredClasses()));
+    all.add(RunFaxes.class);
+    for (Class<?> one : all) {
+      for (Method method : one.getDeclaredMethods()) {
+        Check.holds(method + " takes at most seven", method.getParameterCount() <= 7);
+      }
+      int fields = 0;
+      for (Field field : one.getDeclaredFields()) {
+        fields += Modifier.isStatic(field.getModifiers()) ? 0 : 1;
+      }
+      Check.holds(one + " has at most twenty fields", fields <= 20);
     }
   }
 
